@@ -4,6 +4,9 @@ import java.util.ArrayList;
 public final class HopYard {
     public static final int BAD = -1, STATE = -2, FULL = -3, NONE = -9;
 
+    // sends and tally tell BAD by this number, as the document asks.
+    private static final int BAD_OF_GANGS = -2;
+
     private static final int DAY_HOURS = 12;
     private static final int LAST_DAY = 40;
     private static final int LAST_HOUR = 480;
@@ -79,9 +82,8 @@ public final class HopYard {
 
     public int sends(int gang, int garden) {
         Gang sent = gangOf(gang);
-        // The document tells BAD as -2 here.
-        if (sent == null) return STATE;
-        if (garden != NONE && gardenOf(garden) == null) return STATE;
+        if (sent == null) return BAD_OF_GANGS;
+        if (garden != NONE && gardenOf(garden) == null) return BAD_OF_GANGS;
         int before = sent.at;
         sent.at = garden;
         return before;
@@ -142,14 +144,13 @@ public final class HopYard {
 
     public int tally(int gang, int what) {
         Gang asked = gangOf(gang);
-        // The document tells BAD as -2 here.
-        if (asked == null) return STATE;
+        if (asked == null) return BAD_OF_GANGS;
         switch (what) {
             case 0: return asked.picked;
             case 1: return asked.told;
             case 2: return asked.pay;
             case 3: return asked.at;
-            default: return STATE;
+            default: return BAD_OF_GANGS;
         }
     }
 
@@ -494,7 +495,7 @@ public final class HopYard {
             int dried = kind.dries(reading);
             if (dried <= 0) return 0;
             int takes = (DONE_SHARE + dried - 1) / dried;
-            return takes <= 0 ? 0 : room / takes;
+            return room / Math.max(takes, 1);
         }
     }
 
@@ -622,6 +623,7 @@ public final class HopYard {
     private static final class Allotment {
         static final int SETS = 1 << MAX_GANGS;
         static final int DIGIT = MAX_GARDENS + 1;
+        // DIGIT to the power of MAX_GANGS.
         static final int WEIGHT = 117649;
 
         final int[] rates;
