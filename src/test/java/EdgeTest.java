@@ -272,7 +272,41 @@ public final class EdgeTest {
     x.hours(1);
     dueAbout("the last are dried", x, 0, 20, 0, 0, 14, 6);
     due("about(1, 0): another garden stays", x.about(1, 0), 9);
+    aboutOfManyHours();
     for (int what = 1; what <= 5; what++) due("about(1, " + what + ")", x.about(1, what), 0);
+  }
+
+  /** Green of many hours is one number, in whatever hour it is asked, and so is what a kiln took of many hours. */
+  private static void aboutOfManyHours() {
+    HopYard x = new HopYard();
+    x.garden(5000, 0, 40);
+    x.garden(5000, 0, 40);
+    x.gang(2, 100);
+    x.gang(3, 100);
+    x.sends(0, 0);
+    x.sends(1, 1);
+    x.waits(24);
+    for (int hour = 1; hour <= 80; hour++) {
+      x.hours(1);
+      due("about(0, 2) at " + hour, x.about(0, 2), 2 * Math.min(24, hour));
+      due("about(1, 2) at " + hour, x.about(1, 2), 3 * Math.min(24, hour));
+    }
+    x.kiln(0, 200);
+    x.kiln(0, 1);
+    x.hours(1);
+    due("in(0, 0): of all hours", x.in(0, 0), 120);
+    due("about(0, 3): of all hours", x.about(0, 3), 48);
+    due("about(1, 3): of all hours", x.about(1, 3), 72);
+    due("count(8)", x.count(8), 0);
+    x.kiln(0, 7);
+    x.hours(1);
+    // Kiln 1 takes one of garden 0, kiln 2 the other one of it and three of garden 1.
+    due("about(0, 3): in three kilns", x.about(0, 3), 50);
+    due("about(1, 3): in two kilns", x.about(1, 3), 75);
+    due("in(1, 0)", x.in(1, 0), 1);
+    due("in(1, 3)", x.in(1, 3), 1);
+    due("in(2, 0)", x.in(2, 0), 4);
+    due("in(2, 3)", x.in(2, 3), 3);
   }
 
   private static void dueAbout(String when, HopYard x, int... rows) {

@@ -1111,6 +1111,22 @@ public final class TermsTest {
     for (int p = 0; p < 4; p++) due("pocket(" + p + ", 2)", x.pocket(p, 2), duties[p]);
     x.act(5, 50);
     due("count(6): an act for a day to come", x.count(6), 107);
+    // The first pocket and the hundredth are charged too, the one beyond is not.
+    HopYard y = new HopYard();
+    y.garden(2020, 1, 40);
+    for (int i = 0; i < 6; i++) {
+      y.gang(30, 100);
+      y.sends(i, 0);
+    }
+    Yards.kilnRead(y, 2, 20, 100);
+    y.act(1, 3);
+    y.hours(15);
+    due("count(4)", y.count(4), 1);
+    due("count(6): the first", y.count(6), 3);
+    for (int k = 0; k < 3; k++) Yards.kilnRead(y, 2, 200, 100);
+    Yards.to(y, 60);
+    due("count(4)", y.count(4), 101);
+    due("count(6): a hundred", y.count(6), 300);
   }
 
   // ---- bound
@@ -1155,6 +1171,13 @@ public final class TermsTest {
     due("bound(): 60 by 14 is 5", y.bound(), 40);
     y.read(0, 40);
     due("bound(): 60 by 22 is 3", y.bound(), 66);
+    // With a drying of 1 it takes 60 hours: not 59, not 61.
+    int[][] rooms = {{59, 0}, {60, 1}, {119, 1}, {120, 2}};
+    for (int[] room : rooms) {
+      HopYard z = new HopYard();
+      Yards.kilnRead(z, 0, room[0], 5);
+      due("bound(): " + room[0] + " by 60", z.bound(), room[1]);
+    }
   }
 
   private static void roundedDownEach() {
