@@ -69,6 +69,7 @@ public final class RoomTest {
   private static HopYard begun() {
     HopYard x = new HopYard();
     fill(x);
+    tell(x);
     x.hours(24);
     return x;
   }
@@ -77,8 +78,11 @@ public final class RoomTest {
   private static void fill(HopYard x) {
     for (int g = 0; g < 6; g++) x.garden(5000, 0, 40);
     for (int i = 0; i < 6; i++) x.gang(30, 80);
-    for (int i = 0; i < 6; i++) x.sends(i, i);
     for (int k = 0; k < 4; k++) x.kiln(k % 3, 200);
+  }
+
+  private static void tell(HopYard x) {
+    for (int i = 0; i < 6; i++) x.sends(i, i);
     for (int i = 0; i < 20; i++) x.price(i, 1 + i);
     for (int i = 0; i < 20; i++) x.act(1 + i, i);
   }
@@ -114,6 +118,7 @@ public final class RoomTest {
       HopYard x = new HopYard();
       fill(x);
       long made = counter.getCurrentThreadAllocatedBytes();
+      tell(x);
       allOthers(x);
       long end = counter.getCurrentThreadAllocatedBytes();
       whole = Math.min(whole, made - before);
